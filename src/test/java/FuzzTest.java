@@ -87,7 +87,7 @@ public final class FuzzTest {
       }
     }
     for (int i = r(4) == 0 ? 2 : r(3); i > 0; i--) {
-      if (r(2) == 0) b.append("fits").append(blank()).append(":").append(truth(3)).append(";");
+      if (r(5) < 2) b.append("fits").append(blank()).append(":").append(truth(3)).append(";");
       else b.append("likes").append(blank()).append(": ").append(likesLaw()).append(r(3) == 0 ? "\n;" : ";");
     }
     if (kind == 0 && r(3) > 0) for (int i = 1 + r(2); i > 0; i--) spoil(b);
@@ -95,11 +95,22 @@ public final class FuzzTest {
     return b.toString();
   }
   private String likesLaw() {
-    switch (r(5)) {
+    switch (r(9)) {
+      case 5: case 6: case 7: case 8: return choosy();
       case 0: return "5 - cross - (mark - theirs) * (mark - theirs)";
       case 1: return "(who * " + (1 + r(9)) + " + whom * " + (1 + r(9)) + ") * (whom + " + r(5) + ") - " + r(20) + " + theirs";
       case 2: return 1 + r(30) + " + mark * whom - who * theirs - ink";
       default: return sum(3, true);
+    }
+  }
+  /** All would, and each mark likes in an order of its own: so more than one pairing may hold, or none. */
+  private String choosy() {
+    int a = 1 + r(7), c = r(9);
+    switch (r(4)) {
+      case 0: return "999 - (whom - mark) * (whom - mark)";
+      case 1: return "999 - (whom * " + a + " - mark - who - " + c + ") * (whom * " + a + " - mark - who - " + c + ")";
+      case 2: return "999 - (whom * whom - mark * " + a + " + who) * (whom * whom - mark * " + a + " + who)";
+      default: return "99 - (whom - mark) * (whom - mark) * " + a + " + theirs * " + c;
     }
   }
   private void spoil(StringBuilder b) {
