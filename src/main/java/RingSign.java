@@ -24,7 +24,6 @@ public final class RingSign {
     private static final int CELLS = 9;
     private static final int SIGNS = 512;
     private static final int SHIFTS = 9;
-    private static final int RING_WIDTH = 5;
     private static final int MOST_IN_RING = 4;
     private static final int SETS = 128;
     private static final int MARKS = 10;
@@ -42,8 +41,9 @@ public final class RingSign {
     private static final int IMAGES = 2;
     /** In how many ways seven can be with one other one or with nobody. */
     private static final int MOST_PAIRINGS = 232;
-    /** Four shifts in nine ways each, with all ways back, are fewer rounds. */
-    private static final int MOST_ROUNDS = 10000;
+    /** Two signs lie up to two rows and two columns apart, in rows of five: from -12 to 12. */
+    private static final int FARTHEST = 12;
+    private static final int DISTANCES = 25;
     /** Six of not [ ( within one another leave no more than 18 operands waiting. */
     private static final int MOST_STACKED = 32;
 
@@ -88,6 +88,8 @@ public final class RingSign {
 
     /** A row's number has its first cell highest, a sign's bits have it lowest. */
     private static final int[] ROW_BITS = {0, 4, 2, 6, 1, 5, 3, 7};
+    /** Where in a ring, row by row, a shift puts a sign's first cell; at shift 0 its cells lie so, too. */
+    private static final int[] PLACES = {0, 1, 2, 5, 6, 7, 10, 11, 12};
 
     private final byte[] tape = new byte[TAPE];
     private int taped;
@@ -182,7 +184,7 @@ public final class RingSign {
     }
 
     public int crosses(int p, int q) {
-        return now.areTwo(p, q) ? rings.crossingsOf(1 << p | 1 << q) : NO_SUCH;
+        return now.areTwo(p, q) ? rings.fewestOf(p, q) : NO_SUCH;
     }
 
     public int likes(int p, int q) {
@@ -421,7 +423,7 @@ public final class RingSign {
     public int misfits() {
         for (int many = 3; many <= MOST_IN_RING; many++) {
             for (int set = 1; set <= now.everybody(); set++) {
-                if (Integer.bitCount(set) == many && rings.twosFit(set) && !rings.isFitting(set)) {
+                if (Integer.bitCount(set) == many && rings.allTwosFit(set) && !rings.isFitting(set)) {
                     return set;
                 }
             }
@@ -605,7 +607,11 @@ public final class RingSign {
     // ---- by turns
 
     public int wins(int set) {
-        return now.hasAll(set) ? rings.turnsLeft(set) & 1 : NO_NUMBER;
+        if (!now.hasAll(set)) {
+            return NO_NUMBER;
+        }
+        rings.learnTurns(set);
+        return rings.turns[set] & 1;
     }
 
     public int best(int set) {
@@ -623,7 +629,11 @@ public final class RingSign {
     }
 
     public int lasts(int set) {
-        return now.hasAll(set) ? rings.turnsLeft(set) : NO_NUMBER;
+        if (!now.hasAll(set)) {
+            return NO_NUMBER;
+        }
+        rings.learnTurns(set);
+        return rings.turns[set];
     }
 
     // ---- chances
@@ -859,14 +869,8 @@ public final class RingSign {
             }
         }
 
-        int age(int set) {
-            int sum = 0;
-            for (int p = 0; p < MOST_PEOPLE; p++) {
-                if ((set >>> p & 1) == 1) {
-                    sum += signAge[p] + markAge[p];
-                }
-            }
-            return sum;
+        int ageOf(int p) {
+            return signAge[p] + markAge[p];
         }
 
         int signAgeOf(int set) {
@@ -1267,6 +1271,11 @@ public final class RingSign {
     /** What holds of signs in one ring. */
     private static final class Rings {
         private final Society soc;
+        /** Of each two, the lesser number first: how often they cross, by how far apart they lie. */
+        private final int[] apart = new int[MOST_PEOPLE * MOST_PEOPLE * DISTANCES];
+        private final int[] fewest = new int[MOST_PEOPLE * MOST_PEOPLE];
+        private final int[] fewestAge = new int[MOST_PEOPLE * MOST_PEOPLE];
+        private final int[] tried = new int[DISTANCES];
         private final int[] crossings = new int[SETS];
         private final int[] crossingsAge = new int[SETS];
         /** Of each set the shifts in its monogram, four places a set. */
@@ -1278,9 +1287,10 @@ public final class RingSign {
         private final int[] likings = new int[MOST_PEOPLE * MOST_PEOPLE];
         private final int[] likingsAge = new int[MOST_PEOPLE * MOST_PEOPLE];
         private final int[] member = new int[MOST_IN_RING];
-        private final int[] placed = new int[MOST_IN_RING];
+        private int members;
         private final int[] shift = new int[MOST_IN_RING];
-        private final int[] crossed = new int[MOST_IN_RING];
+        /** By how many members are laid: how often each one crosses with these, at each shift. */
+        private final int[] crossed = new int[MOST_IN_RING * MOST_IN_RING * SHIFTS];
         private final int[] stack = new int[MOST_STACKED];
         /** What the names in a law stand for, from CROSS on. */
         private final int[] named = new int[NAMES];
@@ -1289,71 +1299,99 @@ public final class RingSign {
             soc = society;
         }
 
-        /** A sign's three rows as rows of a ring, at shift 0. */
-        private static int inRing(int sign) {
-            return sign & 7 | (sign >>> 3 & 7) << RING_WIDTH | (sign >>> 6 & 7) << 2 * RING_WIDTH;
+        /** The fewest crossings of two. */
+        int fewestOf(int p, int q) {
+            int one = Math.min(p, q);
+            int other = Math.max(p, q);
+            int two = one * MOST_PEOPLE + other;
+            int age = soc.signAge[one] + soc.signAge[other];
+            if (fewestAge[two] != age) {
+                fewestAge[two] = age;
+                fewest[two] = learnApart(apart, two * DISTANCES, soc.sign[one], soc.sign[other]);
+            }
+            return fewest[two];
         }
 
-        /** Two signs cross alike wherever they are: only how far apart counts. */
-        static int fewestOfTwo(int signA, int signB) {
-            int a = inRing(signA);
-            int b = inRing(signB);
-            int least = CELLS;
-            for (int down = -2; down <= 2 && least > 0; down++) {
-                for (int along = -2; along <= 2; along++) {
-                    int shiftA = Math.max(0, -down) * RING_WIDTH + Math.max(0, -along);
-                    int shiftB = Math.max(0, down) * RING_WIDTH + Math.max(0, along);
-                    least = Math.min(least, Integer.bitCount(a << shiftA & b << shiftB));
+        /** Two cells meet where the signs are as far apart as the cells are, the other way round. */
+        private static int learnApart(int[] row, int from, int sign, int other) {
+            for (int i = 0; i < DISTANCES; i++) {
+                row[from + i] = 0;
+            }
+            for (int c = 0; c < CELLS; c++) {
+                for (int d = 0; d < CELLS && (sign >>> c & 1) == 1; d++) {
+                    row[from + FARTHEST + PLACES[c] - PLACES[d]] += other >>> d & 1;
                 }
+            }
+            int least = CELLS;
+            for (int i = 0; i < DISTANCES; i++) {
+                least = row[from + i] < least ? row[from + i] : least;
             }
             return least;
         }
 
-        /**
-         * Of a set of 1 to 4 people. Shifts are tried from the first on, the last member's
-         * quickest, and none that crosses as often as the best so far: so the first of like
-         * monograms is kept.
-         */
+        /** Of a set of 1 to 4 people. */
         int crossingsOf(int set) {
             int age = soc.signAgeOf(set);
-            if (crossingsAge[set] == age) {
-                return crossings[set];
+            if (crossingsAge[set] != age) {
+                crossingsAge[set] = age;
+                crossings[set] = Integer.MAX_VALUE;
+                takeMembers(set);
+                lay(set, 0, 0);
             }
-            crossingsAge[set] = age;
-            crossings[set] = Integer.MAX_VALUE;
-            int members = 0;
+            return crossings[set];
+        }
+
+        private void takeMembers(int set) {
+            members = 0;
             for (int p = 0; p < MOST_PEOPLE && members < MOST_IN_RING; p++) {
                 if ((set >>> p & 1) == 1) {
-                    member[members] = inRing(soc.sign[p]);
+                    for (int i = 0; i < members; i++) {
+                        fewestOf(member[i], p);
+                    }
+                    member[members] = p;
                     members++;
                 }
             }
-            int i = 0;
-            shift[0] = NONE;
-            for (int round = 0; round < MOST_ROUNDS && i >= 0; round++) {
-                shift[i]++;
-                if (shift[i] >= SHIFTS) {
-                    i--;
-                    continue;
-                }
-                placed[i] = member[i] << shift[i] / 3 * RING_WIDTH + shift[i] % 3;
-                int sum = i == 0 ? 0 : crossed[i - 1];
-                for (int j = 0; j < i; j++) {
-                    sum += Integer.bitCount(placed[i] & placed[j]);
-                }
-                if (sum >= crossings[set]) {
-                    continue;
-                }
-                crossed[i] = sum;
-                if (i + 1 < members) {
-                    i++;
-                    shift[i] = NONE;
-                } else {
-                    crossings[set] = sum;
-                    System.arraycopy(shift, 0, bestShift, set * MOST_IN_RING, members);
+        }
+
+        /**
+         * Shifts are tried from the first on, and none by which there would be no fewer crossings
+         * than were found already: so the first of like monograms is kept.
+         */
+        private void lay(int set, int i, int sum) {
+            for (int s = 0; s < SHIFTS && i < MOST_IN_RING; s++) {
+                int soFar = sum + crossed[(i * MOST_IN_RING + i) * SHIFTS + s];
+                if (soFar < crossings[set]) {
+                    shift[i] = s;
+                    if (i + 1 >= members) {
+                        crossings[set] = soFar;
+                        System.arraycopy(shift, 0, bestShift, set * MOST_IN_RING, members);
+                    } else if (leastBehind(i, s, crossings[set] - soFar) < crossings[set] - soFar) {
+                        lay(set, i + 1, soFar);
+                    }
                 }
             }
-            return crossings[set];
+        }
+
+        /** How many crossings come at least of those behind member i, if it lies at shift s. */
+        private int leastBehind(int i, int s, int enough) {
+            int sum = 0;
+            for (int k = i + 1; k < members && sum < enough; k++) {
+                int before = (i * MOST_IN_RING + k) * SHIFTS;
+                int behind = before + MOST_IN_RING * SHIFTS;
+                int from = (member[i] * MOST_PEOPLE + member[k]) * DISTANCES + FARTHEST - PLACES[s];
+                int least = Integer.MAX_VALUE;
+                for (int t = 0; t < SHIFTS; t++) {
+                    int all = crossed[before + t] + apart[from + PLACES[t]];
+                    crossed[behind + t] = all;
+                    least = all < least ? all : least;
+                }
+                sum += least;
+                for (int m = k + 1; m < members; m++) {
+                    sum += fewest[member[k] * MOST_PEOPLE + member[m]];
+                }
+            }
+            return sum;
         }
 
         /** NONE for one who isn't in the set. */
@@ -1378,11 +1416,20 @@ public final class RingSign {
             return fitting[set];
         }
 
-        boolean twosFit(int set) {
+        boolean twoFit(int p, int q) {
+            int set = 1 << p | 1 << q;
+            int age = soc.signAgeOf(set);
+            if (fittingAge[set] != age) {
+                fittingAge[set] = age;
+                fitting[set] = lawFits(fewestOf(p, q), soc.inkOf(set), 2);
+            }
+            return fitting[set];
+        }
+
+        boolean allTwosFit(int set) {
             for (int p = 0; p < soc.people; p++) {
                 for (int q = p + 1; q < soc.people; q++) {
-                    int two = 1 << p | 1 << q;
-                    if ((set & two) == two && !isFitting(two)) {
+                    if ((set >>> p & 1) == 1 && (set >>> q & 1) == 1 && !twoFit(p, q)) {
                         return false;
                     }
                 }
@@ -1402,10 +1449,10 @@ public final class RingSign {
 
         int liking(int p, int q) {
             int at = p * MOST_PEOPLE + q;
-            int age = soc.age(1 << p | 1 << q);
+            int age = soc.ageOf(p) + soc.ageOf(q);
             if (likingsAge[at] != age) {
                 likingsAge[at] = age;
-                named[0] = crossingsOf(1 << p | 1 << q);
+                named[0] = fewestOf(p, q);
                 named[INK - CROSS] = Integer.bitCount(soc.sign[q]);
                 named[WHO - CROSS] = p;
                 named[WHOM - CROSS] = q;
@@ -1465,18 +1512,13 @@ public final class RingSign {
                 for (int next = 0; next < SIGNS; next++) {
                     if (Integer.bitCount(next ^ sign) == changed) {
                         int ink = Integer.bitCount(next) + Integer.bitCount(other);
-                        if (lawFits(fewestOfTwo(next, other), ink, 2)) {
+                        if (lawFits(learnApart(tried, 0, next, other), ink, 2)) {
                             return next;
                         }
                     }
                 }
             }
             return NONE;
-        }
-
-        int turnsLeft(int set) {
-            learnTurns(set);
-            return turns[set];
         }
 
         /** From the fullest sets down, so that those behind each turn are known already. */
@@ -1533,12 +1575,15 @@ public final class RingSign {
         }
 
         private int ageOfAll() {
-            return soc.age(SETS - 1);
+            int sum = 0;
+            for (int p = 0; p < MOST_PEOPLE; p++) {
+                sum += soc.ageOf(p);
+            }
+            return sum;
         }
 
         boolean areMatching(int p, int q) {
-            return rings.liking(p, q) > 0 && rings.liking(q, p) > 0
-                && rings.isFitting(1 << p | 1 << q);
+            return rings.liking(p, q) > 0 && rings.liking(q, p) > 0 && rings.twoFit(p, q);
         }
 
         /** Whether p likes q better than another one; better than nobody in any case. */

@@ -75,6 +75,11 @@ public final class BlotsTest {
     Check.due("odds of all these are 0", x.likely(0, 0, 1), -1);
     Check.tray(x, 0, 0, 0, 1);
     Check.due("there are none", x.likely(0, 0, 1), -1);
+    RingSign one = Check.of("society;person 4 0 0;person 0 0 0;");
+    Check.tray(one, 0, 0, 1);
+    Check.due("1 of 1", one.likely(0, 0, 0), 1);
+    Check.due("1 of 1", one.likely(0, 0, 1), 1);
+    Check.due("0 of 1", one.likely(0, 1, 0), 0);
   }
 
   private static void look() {

@@ -10,6 +10,8 @@ public final class ChancesTest {
     chance(Check.of("society;person 0 0 0 shy 10;person 0 0 0;"), 0, 0, 1, -1);
     chance(Check.of("society;person 0 0 0;person 0 0 0;"), 0, 1, 1, 1);
     chance(Check.of("society;person 0 0 0;"), 0, 0, 1, -1);
+    Check.due("likeliest at once", Check.of("society;person 0 0 0 shy 9;person 0 0 0 shy 9;").likeliest(0), 1);
+    chance(Check.of("society;person 0 0 0 shy 9;person 0 0 0 shy 9;"), 1, 1, 100, 0);
     three();
     triangle();
     all();

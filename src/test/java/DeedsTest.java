@@ -227,6 +227,10 @@ public final class DeedsTest {
     Check.tray(x, 3, 2, 400, 1);
     Check.due("the first can't be", x.perform(3), 0);
     Check.due("nothing to undo", x.count(5), 0);
+    Check.tray(x, 3, 2, 200, 400);
+    Check.due("one", x.perform(3), 1);
+    Check.due("one call", x.count(5), 1);
+    Check.due("undone", x.undo(1), 0);
     Check.tray(x, 3, 2, 1, 23, 205, 317, 23, 100);
     Check.due("till one can't be", x.perform(3), 4);
     Check.due("0 and 1 are still with each other", x.count(1), 15);
@@ -246,6 +250,25 @@ public final class DeedsTest {
     Check.due("times", none.year(1, -5), -3);
     Check.due("nobody can", none.year(1, 40), 0);
     Check.due("nothing to undo", none.count(5), 0);
+    String six = "society;person 0 0 0;person 0 0 0;person 0 0 0;person 0 0 0;person 0 0 0;person 0 0 0;";
+    // The first draws of each seed, worked out by hand.
+    RingSign one = Check.of(six);
+    Check.due("seed 1: 16838, 38526, 10113: 5 and 5 can't", one.year(1, 1), 0);
+    Check.due("nothing to undo", one.count(5), 0);
+    Check.due("seed 3: 50515, 7107, 10365: 2 and 5 get engaged", one.year(3, 1), 1);
+    Check.due("2 and 5", one.count(1), 36);
+    Check.due("one call", one.count(5), 1);
+    Check.due("seed 2: 33676, 22817, 43007: a stroke of 4 in cell 5", one.year(2, 1), 1);
+    Check.due("cell 5", one.person(4, 0), 32);
+    Check.due("seed 4: 1817, 56934, 43259: 3 has mark 9", one.year(4, 1), 1);
+    Check.due("mark 9", one.person(3, 2), 9);
+    Check.due("seed 10: 37311, 28214: 4 parts from nobody", one.year(10, 1), 0);
+    one.engage(3, 4);
+    Check.due("seed 10: 37311, 28214: 4 parts", one.year(10, 1), 1);
+    Check.due("2 and 5", one.count(1), 36);
+    Check.due("seed 7: 52332, 9806: there is no 6", one.year(7, 1), 0);
+    Check.due("undone", one.undo(5), 0);
+    Check.due("nobody", one.count(1), 0);
     String text = "society;person 7 7 7 mark 1;person 7 7 7;person 3 3 0;person 1 1 1;person 2 7 2;likes : 4 + mark - whom + theirs;fits : cross < 2;";
     for (int seed : new int[] {0, 1, -1, 77, Integer.MAX_VALUE, Integer.MIN_VALUE, 123456789}) {
       RingSign x = Check.of(text);

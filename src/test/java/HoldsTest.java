@@ -23,6 +23,15 @@ public final class HoldsTest {
     Check.due("sure", x.sure(), 0);
     Check.due("most", x.most(), 0);
     Check.due("triangle", x.triangle(), -1);
+    // Each as the first call behind a text.
+    Check.due("breaking at once", Check.of(NO_WAY).breaking(), 1);
+    Check.due("breaks at once", Check.of(NO_WAY).breaks(), 3);
+    Check.due("partner at once", Check.of(TWO_WAYS).partner(1, 0), 3);
+    Check.due("can at once", Check.of(TWO_WAYS).can(0), 12);
+    Check.due("sure at once", Check.of(TWO_WAYS).sure(), 0);
+    Check.due("triangle at once", Check.of(NO_WAY).triangle(), 12);
+    Check.due("most at once", Check.of(NO_WAY).most(), 1);
+    Check.due("matches at once", Check.of(TWO_WAYS).person(0, 6), 12);
     RingSign one = Check.of("society;person 0 0 0;");
     Check.due("one holds", one.holds(), 1);
     Check.due("one's pairings", one.pairings(), 1);

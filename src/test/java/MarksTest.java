@@ -33,6 +33,10 @@ public final class MarksTest {
     both("with itself", x, 0, 0, -3);
     Check.tray(x, 0, 0, 1, -1, -1);
     both("not both", x, 0, 0, -3);
+    Check.tray(x, 0, 0, -1, 0, -1);
+    both("not both", x, 0, 0, -3);
+    Check.tray(x, 0, 0, -1, -1, 0);
+    both("not both", x, 0, 0, -3);
     Check.tray(x, 0, 0, 1, 2, 0);
     both("round and round", x, 0, 0, -3);
     Check.tray(x, 0, 0, 1, 0, -1);
@@ -50,6 +54,10 @@ public final class MarksTest {
     Check.due("both together: 6 to 9", x.marks(0, 0), 960);
     Check.due("both together: 7 to 9", x.marks(0, 1), 896);
     Check.due("the mark is as it was", x.person(0, 2), 3);
+    x.mark(1, 1);
+    Check.due("one mark alone", x.marks(0, 0), 512);
+    Check.due("ask: one mark alone", x.ask(0, 0), 1);
+    x.undo(1);
     Check.tray(x, 0, 1, -1, -1);
     Check.due("both alone: 0 to 5", x.marks(0, 0), 63);
     Check.due("nothing to undo", x.count(5), 0);
@@ -73,6 +81,15 @@ public final class MarksTest {
     Check.due("nothing to undo", x.count(5), 0);
     // Of 1: it would be with 0 by marks from 1 on, with 2 from 5 on, with 3 from 7 on.
     Check.due("of 1", x.ask(0, 1), 2);
+    // It would from 6 on with 1, by all but 0 with 2: by mark 5 it likes 1 by just 0, and that is not enough.
+    RingSign y = Check.of("society;person 0 0 0;person 0 0 0 mark 5;person 0 0 0;likes : mark - theirs;");
+    Check.tray(y, 0, 1, -1, -1, -1);
+    Check.due("marks", y.marks(0, 0), 1023);
+    Check.due("four to six", y.ask(0, 0), 1);
+    RingSign z = Check.of("society;person 0 0 0;person 0 0 0;person 0 0 0;likes : mark * (2 - whom) - who * 9;");
+    Check.tray(z, 0, 1, -1, -1, -1);
+    // With 1 by all but 0 (one to nine), with 2 by none.
+    Check.due("mark 0 counts", z.ask(0, 0), 1);
     // With 1 being liked by 0 from 3 on, and liking it back from 1 on: together by marks 3 to 9.
     x.mark(1, 1);
     Check.tray(x, 0, 1, 1, 0, -1, -1);

@@ -62,6 +62,9 @@ public final class RingsTest {
     Check.due("nobody", x.fits(0), -3);
     Check.due("others", x.fits(32), -3);
     Check.due("others", x.fits(-1), -3);
+    RingSign two = Check.of("society;person 7 2 7;person 4 7 7;person 3 7 7;");
+    Check.due("two crossings", two.monogram(7, 0), 2);
+    Check.due("below 2 without a law", two.fits(7), 0);
     RingSign y = Check.of("society;" + FULL + FULL + FULL + FULL + FULL + "fits : 1 = 1;");
     Check.due("four by the law", y.fits(30), 1);
     Check.due("five, though the law holds", y.fits(31), 0);
@@ -82,6 +85,8 @@ public final class RingsTest {
     Check.due("two", Check.of("society;" + FULL + FULL + FULL).largest(), 3);
     Check.due("four at most", Check.of("society;person 0 0 0;person 0 0 0;person 0 0 0;person 0 0 0;person 0 0 0;").largest(), 15);
     Check.due("none", Check.of("society;" + FULL + "fits : 1 = 2;").largest(), 0);
+    Check.due("the first alone", Check.of("society;person 0 0 0;person 4 0 0;fits : ink = 0;").largest(), 1);
+    Check.due("all three", Check.of("society;person 0 0 0;person 0 0 0;person 0 0 0;").largest(), 7);
     Check.due("the least as bits", Check.of("society;" + FULL + "person 1 0 0;person 1 0 0;person 1 0 0;fits : ink < 4;").largest(), 14);
     Check.due("one", Check.of("society;" + FULL + FULL + "person 4 0 0;fits : many = 1 and ink < 9;").largest(), 4);
     Check.due("a law that asks for three", Check.of("society;" + FULL + FULL + FULL + FULL + "fits : many = 3;").largest(), 7);
@@ -93,6 +98,12 @@ public final class RingsTest {
     Check.due("four", Check.of("society;person 0 0 0;person 0 0 0;person 0 0 0;person 0 0 0;fits : many < 4;").misfits(), 15);
     Check.due("three ahead of four", Check.of("society;person 0 0 0;person 0 0 0;person 0 0 0;person 1 0 0;person 1 0 0;person 1 0 0;fits : many < 4 and ink < 3;").misfits(), 56);
     Check.due("the two don't fit", Check.of("society;" + FULL + FULL + FULL + "fits : many = 1;").misfits(), 0);
+    // Of three cells, two with three and one with none: the two with three don't fit, whoever they are.
+    String law = "fits : many < 3 and ink < 6;";
+    Check.due("0 and 1 don't", Check.of("society;person 7 0 0;person 7 0 0;person 0 0 0;" + law).misfits(), 0);
+    Check.due("0 and 2 don't", Check.of("society;person 7 0 0;person 0 0 0;person 7 0 0;" + law).misfits(), 0);
+    Check.due("1 and 2 don't", Check.of("society;person 0 0 0;person 7 0 0;person 7 0 0;" + law).misfits(), 0);
+    Check.due("all twos do", Check.of("society;person 6 0 0;person 0 0 0;person 7 0 0;" + law).misfits(), 7);
     Check.due("all fit", Check.of("society;person 0 0 0;person 0 0 0;person 0 0 0;person 0 0 0;").misfits(), 0);
     Check.due("five are none", Check.of("society;person 0 0 0;person 0 0 0;person 0 0 0;person 0 0 0;person 0 0 0;").misfits(), 0);
   }

@@ -98,6 +98,8 @@ public final class SocietyTest {
     fault(2, "society;^society;");
     fault(2, "society;^spoon;");
     fault(2, "society;^7;");
+    fault(2, "society;^zoo;");
+    fault(2, "society;^aaz0");
     fault(1, "^Society;");
     fault(1, "society;^\tperson 0 0 0;");
     fault(1, "society^,");
@@ -270,6 +272,7 @@ public final class SocietyTest {
     Check.due("ink is the other one's", liking("ink"), 8);
     Check.due("cross", liking("cross"), 0);
     Check.due("a number", liking("999"), 999);
+    Check.due("cross", Check.of("society;person 7 7 7;person 7 7 7;likes : cross * 5 + 2;").likes(0, 1), 7);
     Check.due("* ahead of +", liking("1 + 2 * 3"), 7);
     Check.due("from the left", liking("10 - 3 - 2"), 5);
     Check.due("from the left", liking("10 - 3 + 2"), 9);

@@ -48,6 +48,11 @@ public final class TurnsTest {
     // By 0 it wins too, but later: 0 is the first, 3 the soonest.
     Check.due("best is the first that wins", x.best(0), 0);
     Check.due("lasts is the soonest", x.lasts(0), 1);
+    RingSign late = Check.of("society;person 4 0 0;person 0 0 0;person 7 4 0;person 7 7 0;person 4 0 0;fits : ink < 7;");
+    // Who begins loses: by 3 (six cells) at the next turn, by a small one not before the fourth.
+    game(late, 8, 1, 1, 1);
+    game(late, 0, 0, -1, 4);
+    Check.due("best at once", Check.of("society;person 0 0 0;person 0 0 0;").best(1), 1);
     RingSign y = Check.of("society;person 4 0 0;person 6 0 0;person 4 0 0;person 4 0 0;fits : ink < 5;");
     // Behind 1 (two cells) just two small ones are added.
     game(y, 2, 0, -1, 2);
