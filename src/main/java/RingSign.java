@@ -1767,7 +1767,10 @@ public final class RingSign {
             if (set == 0) {
                 return 0;
             }
-            int last = 31 - Integer.numberOfLeadingZeros(set);
+            int last = 0;
+            for (int p = 0; p < soc.people; p++) {
+                last = (set >>> p & 1) == 1 ? p : last;
+            }
             int rest = set & ~(1 << last);
             int most = twos[rest];
             for (int q = 0; q < last; q++) {
@@ -1990,7 +1993,9 @@ public final class RingSign {
             }
             sorts[tray] = sort;
             sizes[tray] = n;
-            Arrays.fill(rows, tray * MOST_NUMBERS, (tray + 1) * MOST_NUMBERS, 0L);
+            for (int i = 0; i < MOST_NUMBERS; i++) {
+                rows[tray * MOST_NUMBERS + i] = 0;
+            }
         }
 
         long numberAt(int tray, int i) {

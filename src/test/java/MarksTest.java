@@ -33,6 +33,8 @@ public final class MarksTest {
     both("with itself", x, 0, 0, -3);
     Check.tray(x, 0, 0, 1, -1, -1);
     both("not both", x, 0, 0, -3);
+    Check.tray(x, 0, 0, 3, -1, -1);
+    both("the first number that is nobody's", x, 0, 0, -3);
     Check.tray(x, 0, 0, -1, 0, -1);
     both("not both", x, 0, 0, -3);
     Check.tray(x, 0, 0, -1, -1, 0);
@@ -81,11 +83,11 @@ public final class MarksTest {
     Check.due("nothing to undo", x.count(5), 0);
     // Of 1: it would be with 0 by marks from 1 on, with 2 from 5 on, with 3 from 7 on.
     Check.due("of 1", x.ask(0, 1), 2);
-    // It would from 6 on with 1, by all but 0 with 2: by mark 5 it likes 1 by just 0, and that is not enough.
-    RingSign y = Check.of("society;person 0 0 0;person 0 0 0 mark 5;person 0 0 0;likes : mark - theirs;");
+    // It would from 5 on with 1, from 6 on with 2: by mark 4 it likes 1 by just 0, and that is not enough.
+    RingSign y = Check.of("society;person 0 0 0;person 0 0 0 mark 4;person 0 0 0 mark 5;likes : mark - theirs - who * 20;");
     Check.tray(y, 0, 1, -1, -1, -1);
     Check.due("marks", y.marks(0, 0), 1023);
-    Check.due("four to six", y.ask(0, 0), 1);
+    Check.due("five to five", y.ask(0, 0), 1);
     RingSign z = Check.of("society;person 0 0 0;person 0 0 0;person 0 0 0;likes : mark * (2 - whom) - who * 9;");
     Check.tray(z, 0, 1, -1, -1, -1);
     // With 1 by all but 0 (one to nine), with 2 by none.

@@ -69,8 +69,17 @@ public final class SocietyTest {
     Check.due("undo then", x.undo(1), -3);
     Check.due("other whats of fault", x.fault(2), -1);
     Check.due("other whats of fault", x.fault(-1), -1);
-    Check.due("other laws are gone", Check.tell(x, "society;"), 1);
+    Check.due("nothing but society", Check.tell(x, "society;"), 1);
     Check.due("no people", x.count(0), 0);
+    String two = "society;person 7 7 7 mark 9 shy 8 odds 7;person 7 7 7;engaged 0 1;";
+    Check.due("with laws", Check.tell(x, two + "fits : cross = 0;likes : 5;"), 6);
+    Check.due("the law likes", x.likes(0, 1), 5);
+    Check.due("the law fits", x.fits(3), 0);
+    Check.due("without laws", Check.tell(x, "society;person 7 7 7;person 7 7 7;"), 3);
+    Check.due("no law likes", x.likes(0, 1), 1);
+    Check.due("no law fits", x.fits(3), 1);
+    int[] bare = {511, 9, 0, 0, 1, -1, 2};
+    for (int what = 0; what < 7; what++) Check.due("as if told first: " + what, x.person(0, what), bare[what]);
   }
 
   /** The fault's place stands behind a ^. */
@@ -92,6 +101,9 @@ public final class SocietyTest {
     fault(2, "society \n ^");
     fault(2, "^person 0 0 0;");
     fault(2, "^societyx;");
+    fault(2, "^o;");
+    fault(2, "^ociety;");
+    fault(2, "^societ;");
     fault(2, "^;");
     fault(2, "^7;");
     fault(2, "society;^;");

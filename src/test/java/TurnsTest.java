@@ -52,6 +52,8 @@ public final class TurnsTest {
     // Who begins loses: by 3 (six cells) at the next turn, by a small one not before the fourth.
     game(late, 8, 1, 1, 1);
     game(late, 0, 0, -1, 4);
+    Check.due("lasts at once", Check.of("society;person 0 0 0;person 0 0 0;").lasts(1), 1);
+    Check.due("wins at once", Check.of("society;person 0 0 0;person 0 0 0;").wins(1), 1);
     Check.due("best at once", Check.of("society;person 0 0 0;person 0 0 0;").best(1), 1);
     RingSign y = Check.of("society;person 4 0 0;person 6 0 0;person 4 0 0;person 4 0 0;fits : ink < 5;");
     // Behind 1 (two cells) just two small ones are added.
