@@ -2,6 +2,8 @@
 final class Check {
   private static int wrong = 0;
   private static int right = 0;
+  /** The sentence of the document that is tested just now. */
+  static String about = "";
 
   private Check() { }
 
@@ -10,9 +12,12 @@ final class Check {
       right++;
     } else {
       wrong++;
-      if (wrong <= 200) System.out.println(call + " answered " + got + ", due is " + want);
+      if (wrong <= 200) System.out.println((about.isEmpty() ? "" : "\"" + about + "\": ") + call + " answered " + got + ", due is " + want);
     }
   }
+
+  /** How many answers were looked at so far. */
+  static int told() { return right + wrong; }
 
   static void that(String what, boolean holds) {
     due(what, holds ? 1 : 0, 1);
@@ -38,12 +43,34 @@ final class Check {
     return x.society(text.length());
   }
 
+  /** A text with a fault, told to a new object; the fault's place stands behind a ^. */
+  static void fault(int kind, String marked) {
+    int place = marked.indexOf('^');
+    String text = marked.substring(0, place) + marked.substring(place + 1);
+    RingSign x = new RingSign();
+    String name = marked.replace('\n', '/');
+    due(name, tell(x, text), -30 - kind);
+    due("fault(0) of " + name, x.fault(0), kind);
+    due("fault(1) of " + name, x.fault(1), place);
+    due("no people of " + name, x.count(0), 0);
+  }
+
   /** A new object with this society. */
   static RingSign of(String text) {
     RingSign x = new RingSign();
     int lines = tell(x, text);
     that("a society that was told: " + text, lines > 0);
     return x;
+  }
+
+  /** A line that tells one with a sign, its cell 0 the lowest bit; flags begin with a blank. */
+  static String person(int sign, String flags) {
+    StringBuilder b = new StringBuilder("person");
+    for (int row = 0; row < 3; row++) {
+      int bits = sign >> 3 * row & 7;
+      b.append(' ').append((bits & 1) * 4 + (bits >> 1 & 1) * 2 + (bits >> 2));
+    }
+    return b.append(flags).append(';').toString();
   }
 
   static void tray(RingSign x, int tray, int sort, long... numbers) {
@@ -62,7 +89,8 @@ final class Check {
       for (int q = 0; q < people; q++) b.append(x.likes(p, q)).append(' ').append(x.crosses(p, q)).append(' ');
       b.append(x.chance(p, 0)).append('/').append(x.chance(p, 1)).append('|');
     }
-    b.append(x.holds()).append(' ').append(x.pairings()).append(' ').append(x.largest());
+    int[] more = {x.holds(), x.breaks(), x.breaking(), x.pairings(), x.sure(), x.most(), x.triangle(), x.largest(), x.misfits()};
+    for (int answer : more) b.append(answer).append(' ');
     return b.toString();
   }
 

@@ -9,6 +9,7 @@ public final class FuzzTest {
   private final Model m = new Model();
   private final StringBuilder told = new StringBuilder();
   private final int run;
+  private int calls;
 
   private FuzzTest(int run) { this.run = run; lot = new Random(run * 7919L + 13); }
 
@@ -19,6 +20,7 @@ public final class FuzzTest {
   }
 
   private void due(String call, long got, long want) {
+    calls++;
     told.append(call).append(" -> ").append(got).append('\n');
     Check.due("run " + run + " " + call, got, want);
     if (got != want && System.getenv("FUZZ_TOLD") != null) { System.out.println(told); System.exit(1); }
@@ -26,9 +28,12 @@ public final class FuzzTest {
 
   private void go() {
     int kind = run % 4;
-    for (int calls = 0; calls < 300;) {
-      calls += lot.nextInt(kind == 0 ? 8 : 60) == 0 || calls == 0 ? tellOne(kind) : oneCall();
+    // A text is up to 48 calls, and nothing is promised of an object after its 512th.
+    while (calls < 460) {
+      if (calls == 0 || lot.nextInt(kind == 0 ? 8 : 60) == 0) tellOne(kind);
+      else oneCall();
     }
+    while (calls < 512) due("count", x.count(calls % 9), m.count(calls % 9));
   }
 
   private int r(int n) { return lot.nextInt(n); }
@@ -123,20 +128,17 @@ public final class FuzzTest {
     }
   }
 
-  private int tellOne(int kind) {
+  private void tellOne(int kind) {
     String t = text(kind);
-    int calls = 1;
     for (int at = 0; at < t.length(); at += 20) {
       int[] f = new int[5];
       for (int i = 0; i < 20; i++) f[i / 4] = f[i / 4] << 8 | (at + i < t.length() ? t.charAt(at + i) & 255 : 32);
       due("feed of " + t, x.feed(f[0], f[1], f[2], f[3], f[4]), m.feed(f[0], f[1], f[2], f[3], f[4]));
-      calls++;
     }
     int n = r(20) == 0 ? r(t.length() + 60) - 20 : t.length();
     due("society(" + n + ") of " + t, x.society(n), m.society(n));
     due("fault(0) of " + t, x.fault(0), m.fault(0));
     due("fault(1) of " + t, x.fault(1), m.fault(1));
-    return calls + 2;
   }
 
   // ---- calls
@@ -147,7 +149,7 @@ public final class FuzzTest {
   private int t() { return r(20) == 0 ? r(9) - 3 : r(4); }
   private int what(int n) { return r(15) == 0 ? r(n + 6) - 3 : r(n); }
 
-  private int oneCall() {
+  private void oneCall() {
     int p = p(), q = p(), t = t(), set = set();
     switch (r(46)) {
       case 0: { int a = lot.nextInt(), b = lot.nextInt(); due("feed", x.feed(a, b, a, b, a), m.feed(a, b, a, b, a)); break; }
@@ -161,8 +163,8 @@ public final class FuzzTest {
       case 10: case 11: { int c = what(9); due("stroke(" + p + "," + c + ")", x.stroke(p, c), m.stroke(p, c)); break; }
       case 12: case 13: { int n = what(10); due("mark(" + p + "," + n + ")", x.mark(p, n), m.mark(p, n)); break; }
       case 14: { int n = r(3) == 0 ? r(13) - 1 : 1; due("undo(" + n + ")", x.undo(n), m.undo(n)); break; }
-      case 15: deedsTray(t); for (int w = -1; w < 5; w++) due("judge(" + t + "," + w + ")", x.judge(t, w), m.judge(t, w)); return 12;
-      case 16: deedsTray(t); due("perform(" + t + ")", x.perform(t), m.perform(t)); return 8;
+      case 15: deedsTray(t); for (int w = -1; w < 5; w++) due("judge(" + t + "," + w + ")", x.judge(t, w), m.judge(t, w)); break;
+      case 16: deedsTray(t); due("perform(" + t + ")", x.perform(t), m.perform(t)); break;
       case 17: { int seed = lot.nextInt(), n = r(9) == 0 ? r(50) - 4 : 1 + r(40); due("year(" + seed + "," + n + ")", x.year(seed, n), m.year(seed, n)); break; }
       case 18: due("holds", x.holds(), m.holds()); break;
       case 19: due("breaks", x.breaks(), m.breaks()); break;
@@ -178,11 +180,11 @@ public final class FuzzTest {
       case 29: due("largest", x.largest(), m.largest()); break;
       case 30: due("misfits", x.misfits(), m.misfits()); break;
       case 31: { int w = what(2); due("change(" + p + "," + q + "," + w + ")", x.change(p, q, w), m.change(p, q, w)); break; }
-      case 32: blotTray(t); due("blot(" + t + ")", x.blot(t), m.blot(t)); return 4;
-      case 33: blotTray(t); { int w = what(2); due("likely(" + t + "," + p + "," + w + ")", x.likely(t, p, w), m.likely(t, p, w)); } return 4;
-      case 34: blotTray(t); due("look(" + t + ")", x.look(t), m.look(t)); return 4;
-      case 35: answersTray(t); due("marks(" + t + "," + p + ")", x.marks(t, p), m.marks(t, p)); return 8;
-      case 36: answersTray(t); due("ask(" + t + "," + p + ")", x.ask(t, p), m.ask(t, p)); return 8;
+      case 32: blotTray(t); due("blot(" + t + ")", x.blot(t), m.blot(t)); break;
+      case 33: blotTray(t); { int w = what(2); due("likely(" + t + "," + p + "," + w + ")", x.likely(t, p, w), m.likely(t, p, w)); } break;
+      case 34: blotTray(t); due("look(" + t + ")", x.look(t), m.look(t)); break;
+      case 35: answersTray(t); due("marks(" + t + "," + p + ")", x.marks(t, p), m.marks(t, p)); break;
+      case 36: answersTray(t); due("ask(" + t + "," + p + ")", x.ask(t, p), m.ask(t, p)); break;
       case 37: due("wins(" + set + ")", x.wins(set), m.wins(set)); break;
       case 38: due("best(" + set + ")", x.best(set), m.best(set)); break;
       case 39: due("lasts(" + set + ")", x.lasts(set), m.lasts(set)); break;
@@ -193,7 +195,6 @@ public final class FuzzTest {
       case 44: { int i = what(2); due("restore(" + i + ")", x.restore(i), m.restore(i)); break; }
       default: { int w = what(8); due("count(" + w + ")", x.count(w), m.count(w)); break; }
     }
-    return 1;
   }
 
   private void numbers(int t, int sort, int n) {
