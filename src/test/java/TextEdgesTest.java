@@ -90,6 +90,17 @@ public final class TextEdgesTest {
     Check.due("900 tokens", Check.tell(x, ";".repeat(900)), -32);
     Check.due("899 tokens", Check.tell(x, ";".repeat(899)), -32);
     Check.due("900 bytes that begin no token", Check.tell(x, ",".repeat(900)), -31);
+    // Tokens that go on to the last byte, and might go on behind it.
+    for (String last : new String[] {"p", "perso", "person", "wh", "0", "12", "999", "1000"}) {
+      int place = 900 - last.length();
+      RingSign y = new RingSign();
+      int kind = last.equals("1000") ? 1 : 2;
+      Check.due("900 bytes up to " + last, Check.tell(y, "society;" + " ".repeat(place - 8) + last), -30 - kind);
+      Check.due("its place", y.fault(1), last.equals("person") ? 900 : place);
+      Check.due("900 bytes of a law up to " + last, Check.tell(y, "society;likes:" + " ".repeat(place - 14) + last), -30 - kind);
+      boolean number = kind == 2 && last.charAt(0) <= '9';
+      Check.due("its place", y.fault(1), number ? 900 : place);
+    }
     Check.due("as many tokens as a good text can have", Check.tell(x, "society;likes:1" + "*1".repeat(442) + ";"), 2);
     Check.due("a long law told again", Check.tell(x, ones + ";"), 4);
     Check.due("all its parts count", x.likes(1, 0), 1 + (899 - law.length()) / 2);
@@ -448,6 +459,17 @@ public final class TextEdgesTest {
     truth(0, "not[1=1]");
     sum(110, "11*10");
     bad(2, "likes:11 ^0;");
+    // They end where the text ends, whatever is on the tape behind it.
+    RingSign x = new RingSign();
+    Check.feed(x, "society;person 0 0 0;likes:whom;");
+    Check.due("the first 11 bytes", x.society(11), -32);
+    Check.due("per is no word here", x.fault(1), 8);
+    Check.feed(x, "society;likes:1234;");
+    Check.due("the first 17 bytes: 123 is a number", x.society(17), -32);
+    Check.due("behind it the text ends", x.fault(1), 17);
+    Check.feed(x, "society;likes:1234;");
+    Check.due("the first 18 bytes: 1234 is none", x.society(18), -31);
+    Check.due("its place", x.fault(1), 14);
   }
 
   private static void blanks() {
