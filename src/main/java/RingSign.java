@@ -44,6 +44,8 @@ public final class RingSign {
     /** Two signs lie up to two rows and two columns apart, in rows of five: from -12 to 12. */
     private static final int FARTHEST = 12;
     private static final int DISTANCES = 25;
+    /** More than any crossings there can be, and than any turns. */
+    private static final int ENDLESS = 1000000;
     /** Six of not [ ( within one another leave no more than 18 operands waiting. */
     private static final int MOST_STACKED = 32;
 
@@ -1073,7 +1075,16 @@ public final class RingSign {
             if (kind == PERSON) {
                 return readPerson(draft.people);
             }
-            return kind == ENGAGED ? readEngaged() : readLaw(kind == LIKES);
+            if (kind == ENGAGED) {
+                return readEngaged();
+            }
+            inLikes = kind == LIKES;
+            int from = draft.codeSize;
+            if (!take(COLON) || !(inLikes ? readSum(0) : readTruth(0))) {
+                return false;
+            }
+            keepLaw(from);
+            return true;
         }
 
         private boolean readPerson(int p) {
@@ -1139,20 +1150,15 @@ public final class RingSign {
             return p;
         }
 
-        private boolean readLaw(boolean ofLikes) {
-            inLikes = ofLikes;
-            int from = draft.codeSize;
-            if (!take(COLON) || !(ofLikes ? readSum(0) : readTruth(0))) {
-                return false;
-            }
-            if (ofLikes) {
+        /** The law just read is the one in force from here on: later ones strike. */
+        private void keepLaw(int from) {
+            if (inLikes) {
                 draft.likesFrom = from;
                 draft.likesTo = draft.codeSize;
             } else {
                 draft.fitsFrom = from;
                 draft.fitsTo = draft.codeSize;
             }
-            return true;
         }
 
         private void emit(int part) {
@@ -1250,7 +1256,14 @@ public final class RingSign {
                     return refuse(4);
                 }
                 step();
-                return readSum(depth + 1) && take(CLOSE);
+                if (!readSum(depth + 1)) {
+                    return false;
+                }
+                if (token[at] != CLOSE) {
+                    return refuse(2);
+                }
+                step();
+                return true;
             }
             if (first >= NUMBERS && !isName(first)) {
                 return refuse(2);
@@ -1334,7 +1347,7 @@ public final class RingSign {
             int age = soc.signAgeOf(set);
             if (crossingsAge[set] != age) {
                 crossingsAge[set] = age;
-                crossings[set] = Integer.MAX_VALUE;
+                crossings[set] = ENDLESS;
                 takeMembers(set);
                 lay(set, 0, 0);
             }
@@ -1380,7 +1393,7 @@ public final class RingSign {
                 int before = (i * MOST_IN_RING + k) * SHIFTS;
                 int behind = before + MOST_IN_RING * SHIFTS;
                 int from = (member[i] * MOST_PEOPLE + member[k]) * DISTANCES + FARTHEST - PLACES[s];
-                int least = Integer.MAX_VALUE;
+                int least = ENDLESS;
                 for (int t = 0; t < SHIFTS; t++) {
                     int all = crossed[before + t] + apart[from + PLACES[t]];
                     crossed[behind + t] = all;
@@ -1532,7 +1545,7 @@ public final class RingSign {
 
         /** Who makes the last turn wins, so an even number left is a loss for who is to add. */
         private int turnsBehind(int set) {
-            int soonest = Integer.MAX_VALUE;
+            int soonest = ENDLESS;
             int latest = -1;
             for (int p = 0; p < soc.people; p++) {
                 int next = set | 1 << p;
@@ -1543,7 +1556,7 @@ public final class RingSign {
                     latest = Math.max(latest, turns[next]);
                 }
             }
-            return 1 + (soonest < Integer.MAX_VALUE ? soonest : latest);
+            return 1 + (soonest < ENDLESS ? soonest : latest);
         }
     }
 
